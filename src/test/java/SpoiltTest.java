@@ -320,6 +320,11 @@ public final class SpoiltTest {
             compose(s);
             changeAndMend(s, 5, kind);
             dueWrong("kind " + kind, s);
+            s = start();
+            s.fill(0, 0, 16, 8, 5);
+            compose(s);
+            changeAndMend(s, 5, kind, 7, 1);
+            dueWrong("kind " + kind + ", then COPY twice", s);
         }
     }
 
@@ -335,6 +340,11 @@ public final class SpoiltTest {
             compose(s);
             changeAndMend(s, 6, tile);
             dueWrong("tile " + tile, s);
+            s = start();
+            s.fill(0, 0, 16, 8, 5);
+            compose(s);
+            changeAndMend(s, 6, tile, 7, 1);
+            dueWrong("tile " + tile + ", then COPY twice", s);
         }
     }
 
@@ -464,6 +474,9 @@ public final class SpoiltTest {
             dueWrong("runs " + java.util.Arrays.toString(w), s);
         }
         s = startRuns();
+        changeAndMend(s, 6, 47, 11, 37);
+        dueWrong("runs that would leave the picture", s);
+        s = startRuns();
         changeAndMend(s, 7, 0, 8, 1, 11, 1, 14, 1);
         dueWrong("no runs, then COPY three times", s);
         s = startRuns();
@@ -503,6 +516,16 @@ public final class SpoiltTest {
         s.credit(0, 100);
         Check.due("all again", s.pump(0), 15);
         Check.showsDrawn("after a break", s, 0);
+
+        s = start();
+        s.fill(0, 0, 16, 8, 5);
+        compose(s);
+        changeAndMend(s, 6, 30, 10, 48);
+        dueWrong("second record, the first one at another tile", s);
+        s.join(0);
+        s.credit(0, 100);
+        Check.due("all again", s.pump(0), 15);
+        Check.showsDrawn("nothing is left of the wrong update", s, 0);
     }
 
     private static void numbers() {
