@@ -168,7 +168,7 @@ public final class TileScreen {
     }
 
     public int shown(int v) {
-        return isViewer(v) ? viewers[v].display.frontNumber : NONE;
+        return isViewer(v) ? answerOf(viewers[v].display.frontNumber) : NONE;
     }
 
     public int at(int v, int x, int y) {
@@ -200,7 +200,7 @@ public final class TileScreen {
             case 5:
                 return viewer.feed.sent.countOther(closed);
             case 6:
-                return viewer.feed.sentNumber;
+                return answerOf(viewer.feed.sentNumber);
             case 7:
                 return viewer.feed.cache.place;
             default:
@@ -221,6 +221,11 @@ public final class TileScreen {
 
     private static boolean isViewer(int v) {
         return v >= 0 && v < VIEWERS;
+    }
+
+    /** A frame's number may outgrow the face's int, which then has its lowest 32 bits. */
+    private static int answerOf(long frameNumber) {
+        return (int) frameNumber;
     }
 
     private static boolean isColour(int colour) {
@@ -451,7 +456,8 @@ public final class TileScreen {
     /** What the server knows of a viewer, and the line to it. */
     private static final class Feed {
         private final Tiles sent = new Tiles(TILES);
-        private int sentNumber;
+        /** May be one that a viewer showed, so it is as long as those. */
+        private long sentNumber;
         private final Cache cache = new Cache();
         private final Line line = new Line();
         private final int[] composed = new int[KINDS];
@@ -614,7 +620,8 @@ public final class TileScreen {
     /** What a viewer has: what it shows, its cache, and the bytes that came. */
     private static final class Display {
         private final Tiles front = new Tiles(TILES);
-        private int frontNumber;
+        /** Spoilt updates may each raise it by 65536, within a run beyond an int. */
+        private long frontNumber;
         /** The copy of the front that the records of an update work on. */
         private final Tiles back = new Tiles(TILES);
         private final Cache cache = new Cache();
@@ -664,8 +671,8 @@ public final class TileScreen {
         }
 
         /** The least number above one before that is the told one modulo 65536. */
-        private static int numberAbove(int before, int told) {
-            return before + 1 + Math.floorMod(told - before - 1, MODULUS);
+        private static long numberAbove(long before, int told) {
+            return before + 1 + (told - before - 1 & MODULUS - 1);
         }
 
         private int pairAt(int k) {

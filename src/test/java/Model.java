@@ -13,7 +13,7 @@ final class Model {
 
     static final class Side {
         int[][] picture = new int[48][64];
-        int number = 0;
+        long number = 0;
         int[][] cache = new int[16][];
         int place = 0;
 
@@ -202,7 +202,7 @@ final class Model {
     }
 
     int shown(int v) {
-        return none(v) ? -1 : views[v].own.number;
+        return none(v) ? -1 : (int) views[v].own.number;
     }
 
     int at(int v, int x, int y) {
@@ -222,7 +222,7 @@ final class Model {
             differing += Arrays.equals(tile(view.sent.picture, t), tile(closed, t)) ? 0 : 1;
         }
         int[] all = {view.connected ? 1 : 0, view.credit, view.line.size(), view.came.size(), view.epoch,
-            differing, view.sent.number, view.sent.place};
+            differing, (int) view.sent.number, view.sent.place};
         return all[what];
     }
 
@@ -405,7 +405,7 @@ final class Model {
         if (sum % 65536 != told) {
             throw new WrongException();
         }
-        int frame = takeColour(in);
+        long frame = takeColour(in);
         int[][] copy = copyOf(view.own.picture);
         while (!in.isEmpty()) {
             int kind = take(in);
