@@ -22,19 +22,8 @@ final class Check {
         due(what, got ? 1 : 0, 0);
     }
 
-    /** The credit, or -2 for an IllegalArgumentException, -3 for an IllegalStateException. */
-    static int credit(TileScreen s, int v, int n) {
-        try {
-            return s.credit(v, n);
-        } catch (IllegalArgumentException e) {
-            return -2;
-        } catch (IllegalStateException e) {
-            return -3;
-        }
-    }
-
     /** The bytes on a viewer's line, as the document numbers them. */
-    static int[] line(TileScreen s, int v) {
+    static int[] line(Screen s, int v) {
         int[] bytes = new int[s.about(v, 2)];
         for (int k = 0; k < bytes.length; k++) {
             bytes[k] = s.onLine(v, k);
@@ -50,7 +39,7 @@ final class Check {
     }
 
     /** Whether a viewer shows just what is drawn. */
-    static void showsDrawn(String what, TileScreen s, int v) {
+    static void showsDrawn(String what, Screen s, int v) {
         int differing = 0;
         for (int y = 0; y < 48; y++) {
             for (int x = 0; x < 64; x++) {

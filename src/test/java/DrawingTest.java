@@ -1,3 +1,5 @@
+import java.util.Arrays;
+
 /** Promises 1 to 5, 11 and 12: what is drawn, closed and looked at. */
 public final class DrawingTest {
     private static final int MAX = Integer.MAX_VALUE;
@@ -6,12 +8,18 @@ public final class DrawingTest {
     public static void main(String[] args) {
         newObject();
         fill();
-        fillRefused();
+        fillEdges();
+        fillEmpty();
+        fillLeavesThePicture();
+        fillNoColour();
         blit();
         blitOverlapping();
         blitFullWidth();
-        blitRefused();
+        blitFromOutside();
+        blitToOutside();
+        blitOfNoSize();
         shade();
+        shadeEdges();
         shadeRefused();
         frame();
         shown();
@@ -19,11 +27,11 @@ public final class DrawingTest {
         Check.end();
     }
 
-    private static int drawn(TileScreen s, int x, int y) {
+    private static int drawn(Screen s, int x, int y) {
         return s.at(TileScreen.NONE, x, y);
     }
 
-    private static int countDrawn(TileScreen s, int colour) {
+    private static int countDrawn(Screen s, int colour) {
         int count = 0;
         for (int y = 0; y < 48; y++) {
             for (int x = 0; x < 64; x++) {
@@ -36,7 +44,7 @@ public final class DrawingTest {
     }
 
     private static void newObject() {
-        TileScreen s = new TileScreen();
+        Screen s = new Screen();
         Check.due("NONE", TileScreen.NONE, -1);
         Check.due("new: pixels of colour 0", countDrawn(s, 0), 3072);
         for (int v = 0; v < 3; v++) {
@@ -56,7 +64,7 @@ public final class DrawingTest {
     }
 
     private static void fill() {
-        TileScreen s = new TileScreen();
+        Screen s = new Screen();
         Check.yes("fill", s.fill(6, 7, 3, 2, 65535));
         Check.due("fill: upper left", drawn(s, 6, 7), 65535);
         Check.due("fill: lower right", drawn(s, 8, 8), 65535);
@@ -71,22 +79,54 @@ public final class DrawingTest {
         Check.due("fill: all", countDrawn(s, 0), 3072);
     }
 
-    private static void fillRefused() {
-        TileScreen s = new TileScreen();
-        int[][] wrong = {
-            {0, 0, 0, 1, 5}, {0, 0, 1, 0, 5}, {0, 0, -1, 1, 5}, {0, 0, 1, -1, 5}, {-1, 0, 2, 1, 5}, {0, -1, 1, 2, 5},
-            {0, 0, 65, 1, 5}, {0, 0, 1, 49, 5}, {63, 0, 2, 1, 5}, {0, 47, 1, 2, 5}, {64, 0, 1, 1, 5}, {0, 48, 1, 1, 5},
-            {64, 0, 0, 1, 5}, {1, 0, MAX, 1, 5}, {0, 1, 1, MAX, 5}, {MAX, 0, 1, 1, 5}, {0, MAX, 1, 1, 5},
-            {MIN, 0, MAX, 1, 5}, {0, MIN, 1, MIN, 5}, {0, 0, 1, 1, -1}, {0, 0, 1, 1, 65536}, {0, 0, 1, 1, MAX},
-        };
-        for (int[] w : wrong) {
-            Check.no("fill " + java.util.Arrays.toString(w), s.fill(w[0], w[1], w[2], w[3], w[4]));
+    /** Each row: the arguments of a fill that must be refused and draw nothing. */
+    private static void refusedFills(String why, int[][] rows) {
+        Screen s = new Screen();
+        s.fill(0, 0, 32, 48, 3);
+        for (int[] r : rows) {
+            Check.no(why + ": fill " + Arrays.toString(r), s.fill(r[0], r[1], r[2], r[3], r[4]));
         }
-        Check.due("refused fills draw nothing", countDrawn(s, 0), 3072);
+        Check.due(why + ": nothing was drawn", countDrawn(s, 3), 32 * 48);
+        Check.due(why + ": nothing was drawn", countDrawn(s, 0), 32 * 48);
+    }
+
+    private static void fillEmpty() {
+        refusedFills("empty", new int[][] {
+            {0, 0, 0, 1, 5}, {0, 0, 1, 0, 5}, {0, 0, 0, 0, 5}, {9, 9, -1, 1, 5}, {9, 9, 1, -1, 5}, {9, 9, -2, -2, 5},
+            {64, 0, 0, 1, 5}, {64, 48, 0, 0, 5}, {9, 9, MIN, 1, 5}, {9, 9, 1, MIN, 5}, {64, 0, -1, 1, 5}, {0, 48, 1, -1, 5},
+        });
+    }
+
+    private static void fillLeavesThePicture() {
+        refusedFills("leaves the picture", new int[][] {
+            {-1, 0, 2, 1, 5}, {0, -1, 1, 2, 5}, {-1, -1, 1, 1, 5}, {0, 0, 65, 1, 5}, {0, 0, 1, 49, 5},
+            {63, 0, 2, 1, 5}, {0, 47, 1, 2, 5}, {1, 0, 64, 1, 5}, {0, 1, 1, 48, 5}, {64, 0, 1, 1, 5}, {0, 48, 1, 1, 5},
+            {1, 0, MAX, 1, 5}, {0, 1, 1, MAX, 5}, {MAX, 0, 1, 1, 5}, {0, MAX, 1, 1, 5}, {MAX, 0, MAX, 1, 5},
+            {MIN, 0, MAX, 1, 5}, {0, MIN, 1, MAX, 5}, {MIN, 0, MIN, 1, 5}, {0, MIN, 1, MIN, 5},
+        });
+    }
+
+    private static void fillNoColour() {
+        refusedFills("no colour", new int[][] {
+            {0, 0, 1, 1, -1}, {0, 0, 1, 1, 65536}, {0, 0, 1, 1, MAX}, {0, 0, 1, 1, MIN}, {0, 0, 64, 48, 65536},
+        });
+    }
+
+    private static void fillEdges() {
+        Screen s = new Screen();
+        Check.yes("the first pixel", s.fill(0, 0, 1, 1, 65535));
+        Check.yes("the last pixel", s.fill(63, 47, 1, 1, 65535));
+        Check.due("the last colour", drawn(s, 0, 0), 65535);
+        Check.due("the last colour", drawn(s, 63, 47), 65535);
+        Check.yes("the whole first row", s.fill(0, 0, 64, 1, 7));
+        Check.yes("the whole last column", s.fill(63, 0, 1, 48, 7));
+        Check.due("a row and a column", countDrawn(s, 7), 64 + 47);
+        Check.yes("the whole picture", s.fill(0, 0, 64, 48, 0));
+        Check.due("the first colour", countDrawn(s, 0), 3072);
     }
 
     private static void blit() {
-        TileScreen s = new TileScreen();
+        Screen s = new Screen();
         s.fill(3, 2, 1, 1, 11);
         s.fill(4, 3, 1, 1, 12);
         s.fill(20, 30, 5, 5, 13);
@@ -107,7 +147,7 @@ public final class DrawingTest {
         for (int way = 0; way < 9; way++) {
             int dx = way % 3 - 1;
             int dy = way / 3 - 1;
-            TileScreen s = new TileScreen();
+            Screen s = new Screen();
             for (int y = 0; y < 6; y++) {
                 for (int x = 0; x < 6; x++) {
                     s.fill(10 + x, 10 + y, 1, 1, 100 + 10 * y + x);
@@ -123,7 +163,7 @@ public final class DrawingTest {
     }
 
     private static void blitFullWidth() {
-        TileScreen s = new TileScreen();
+        Screen s = new Screen();
         s.fill(0, 0, 64, 1, 3);
         Check.yes("blit 64 wide, 1 high", s.blit(0, 64 + 64, 0, 5));
         Check.due("blit: left", drawn(s, 0, 5), 3);
@@ -134,25 +174,43 @@ public final class DrawingTest {
         Check.yes("blit 1 wide, 48 high", s.blit(0, 64 * 48 + 1, 63, 0));
     }
 
-    private static void blitRefused() {
-        TileScreen s = new TileScreen();
+    /** Each row: the arguments of a blit that must be refused and draw nothing. */
+    private static void refusedBlits(String why, int[][] rows) {
+        Screen s = new Screen();
         s.fill(0, 0, 32, 48, 3);
-        int[][] wrong = {
-            {-1, 65, 0, 0}, {3072, 65, 0, 0}, {MIN, 65, 0, 0}, {MAX, 65, 0, 0},
-            {0, 64, 40, 0}, {0, 1, 40, 0}, {0, 0, 40, 0}, {0, -1, 40, 0}, {0, MIN, 40, 0}, {0, MAX, 40, 0},
-            {0, 64 * 48 + 65, 0, 0}, {0, 64 * 49 + 1, 0, 0},
-            {63, 66, 0, 0}, {64 * 47, 64 * 2 + 1, 0, 0}, {1, 128, 0, 0},
-            {0, 66, 63, 0}, {0, 64 * 2 + 1, 40, 47}, {0, 128, 1, 1},
-            {0, 65, -1, 0}, {0, 65, 0, -1}, {0, 65, 64, 0}, {0, 65, 0, 48}, {0, 65, MAX, 0}, {0, 65, 40, MIN},
-        };
-        for (int[] w : wrong) {
-            Check.no("blit " + java.util.Arrays.toString(w), s.blit(w[0], w[1], w[2], w[3]));
+        s.fill(63, 47, 1, 1, 4);
+        for (int[] r : rows) {
+            Check.no(why + ": blit " + Arrays.toString(r), s.blit(r[0], r[1], r[2], r[3]));
         }
-        Check.due("refused blits draw nothing", countDrawn(s, 3), 32 * 48);
+        Check.due(why + ": nothing was drawn", countDrawn(s, 3), 32 * 48);
+        Check.due(why + ": nothing was drawn", countDrawn(s, 4), 1);
+    }
+
+    private static void blitFromOutside() {
+        refusedBlits("source leaves the picture", new int[][] {
+            {-1, 65, 40, 0}, {-64, 65, 40, 0}, {-64, 129, 40, 0}, {3072, 65, 40, 0}, {3135, 65, 40, 0},
+            {MIN, 65, 40, 0}, {MAX, 65, 40, 0}, {63, 66, 40, 0}, {64 * 47, 64 * 2 + 1, 40, 0}, {1, 128, 0, 1},
+            {64, 64 * 48 + 1, 40, 0}, {3071, 64 * 2 + 2, 40, 0},
+        });
+    }
+
+    private static void blitToOutside() {
+        refusedBlits("target leaves the picture", new int[][] {
+            {0, 65, -1, 0}, {0, 65, 0, -1}, {0, 65, 64, 0}, {0, 65, 0, 48}, {0, 66, 63, 0}, {0, 64 * 2 + 1, 40, 47},
+            {0, 128, 1, 1}, {0, 64 * 48 + 1, 40, 1}, {0, 65, MAX, 0}, {0, 65, 40, MAX}, {0, 65, MIN, 0}, {0, 65, 40, MIN},
+            {0, 64 + 2, MAX, 0}, {0, 64 * 2 + 1, 40, MAX},
+        });
+    }
+
+    private static void blitOfNoSize() {
+        refusedBlits("no such size", new int[][] {
+            {0, 64, 40, 0}, {0, 1, 40, 0}, {0, 0, 40, 0}, {0, -1, 40, 0}, {0, -64, 40, 0}, {0, -63, 40, 0},
+            {0, MIN, 40, 0}, {0, MAX, 40, 0}, {0, 64 * 49 + 1, 0, 0}, {0, 64 * 49 + 64, 0, 0}, {0, 64 * 48 + 65, 0, 0},
+        });
     }
 
     private static void shade() {
-        TileScreen s = new TileScreen();
+        Screen s = new Screen();
         Check.yes("shade", s.shade(10, 3, 65530, 2));
         for (int k = 0; k < 8; k++) {
             Check.due("shade: pixel " + k, drawn(s, 16 + k, 8 + 3), (65530 + 2 * k) % 65536);
@@ -170,20 +228,39 @@ public final class DrawingTest {
         Check.due("shade by 0", drawn(s, 63, 0), 65535);
     }
 
-    private static void shadeRefused() {
-        TileScreen s = new TileScreen();
-        int[][] wrong = {
-            {-1, 0, 5, 0}, {48, 0, 5, 0}, {MIN, 0, 5, 0}, {MAX, 0, 5, 0}, {0, -1, 5, 0}, {0, 8, 5, 0},
-            {0, MAX, 5, 0}, {0, MIN, 5, 0}, {0, 0, -1, 0}, {0, 0, 65536, 0}, {0, 0, MAX, 1},
-        };
-        for (int[] w : wrong) {
-            Check.no("shade " + java.util.Arrays.toString(w), s.shade(w[0], w[1], w[2], w[3]));
+    /** Each row: the arguments of a shade that must be refused and draw nothing. */
+    private static void refusedShades(String why, int[][] rows) {
+        Screen s = new Screen();
+        for (int[] r : rows) {
+            Check.no(why + ": shade " + Arrays.toString(r), s.shade(r[0], r[1], r[2], r[3]));
         }
-        Check.due("refused shades draw nothing", countDrawn(s, 0), 3072);
+        Check.due(why + ": nothing was drawn", countDrawn(s, 0), 3072);
+    }
+
+    private static void shadeRefused() {
+        refusedShades("no such tile", new int[][] {{-1, 0, 5, 0}, {48, 0, 5, 0}, {MIN, 0, 5, 0}, {MAX, 0, 5, 0}});
+        refusedShades("no such row", new int[][] {{0, -1, 5, 0}, {0, 8, 5, 0}, {9, -1, 5, 0}, {0, MAX, 5, 0}, {0, MIN, 5, 0}});
+        refusedShades("no colour", new int[][] {{0, 0, -1, 1}, {0, 0, 65536, 0}, {0, 0, MAX, 1}, {0, 0, MIN, 0}});
+    }
+
+    private static void shadeEdges() {
+        Screen s = new Screen();
+        Check.yes("first tile, first row, first colour", s.shade(0, 0, 0, 1));
+        Check.due("first pixel", drawn(s, 0, 0), 0);
+        Check.due("last pixel of the row", drawn(s, 7, 0), 7);
+        Check.yes("last tile, last row, last colour", s.shade(47, 7, 65535, 1));
+        Check.due("the leftmost one is the last colour", drawn(s, 56, 47), 65535);
+        Check.due("the next one is the first colour", drawn(s, 57, 47), 0);
+        Check.due("last pixel of the picture", drawn(s, 63, 47), 6);
+        Check.yes("a step of all colours", s.shade(8, 1, 9, 65536));
+        Check.due("leads to itself", drawn(s, 7, 9), 9);
+        Check.yes("a step down from 0", s.shade(7, 7, 0, -1));
+        Check.due("leads to the last colour", drawn(s, 57, 7), 65535);
+        Check.due("and on", drawn(s, 63, 7), 65529);
     }
 
     private static void frame() {
-        TileScreen s = new TileScreen();
+        Screen s = new Screen();
         s.fill(0, 0, 9, 1, 5);
         Check.due("not closed yet", s.about(0, 5), 0);
         Check.due("frame", s.frame(), 1);
@@ -196,7 +273,7 @@ public final class DrawingTest {
     }
 
     private static void shown() {
-        TileScreen s = new TileScreen();
+        Screen s = new Screen();
         s.join(1);
         s.frame();
         s.frame();
@@ -213,7 +290,7 @@ public final class DrawingTest {
     }
 
     private static void at() {
-        TileScreen s = new TileScreen();
+        Screen s = new Screen();
         s.join(2);
         s.fill(63, 47, 1, 1, 8);
         s.frame();

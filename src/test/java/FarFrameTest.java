@@ -10,7 +10,7 @@ public final class FarFrameTest {
     /** More than are shown by one spoilt update, of at least 7 bytes each. */
     private static final long MOST_FRAMES = UPDATE / 7;
 
-    private final TileScreen screen = new TileScreen();
+    private final Screen screen = new Screen();
     private final Model model = new Model();
 
     public static void main(String[] args) {
@@ -81,7 +81,7 @@ public final class FarFrameTest {
     }
 
     private int pump(int credit) {
-        Check.due("credit", Check.credit(screen, 0, credit), model.credit(0, credit));
+        Check.due("credit", screen.credit(0, credit), model.credit(0, credit));
         int moved = screen.pump(0);
         Check.due("pump", moved, model.pump(0));
         return moved;

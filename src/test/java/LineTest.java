@@ -5,10 +5,16 @@ public final class LineTest {
 
     public static void main(String[] args) {
         join();
+        joinWhenConnected();
         joinAfterBreak();
         cut();
+        cutWithNothingOnTheWay();
         credit();
+        creditThatWasUsed();
+        creditAfterABreak();
         pump();
+        pumpWhenNotConnected();
+        pumpByteByByte();
         pumpComposesOnlyForCredit();
         pumpGoesOnToTheNextUpdate();
         viewersAreApart();
@@ -18,7 +24,7 @@ public final class LineTest {
     }
 
     private static void join() {
-        TileScreen s = new TileScreen();
+        Screen s = new Screen();
         for (int v = 0; v < 3; v++) {
             Check.yes("join", s.join(v));
             Check.due("connected", s.about(v, 0), 1);
@@ -31,8 +37,24 @@ public final class LineTest {
         }
     }
 
+    private static void joinWhenConnected() {
+        Screen s = new Screen();
+        s.join(0);
+        s.fill(0, 0, 8, 8, 5);
+        s.fill(3, 3, 2, 2, 1);
+        s.frame();
+        s.credit(0, 9);
+        s.pump(0);
+        s.credit(0, 2);
+        Check.no("join of a connected one", s.join(0));
+        int[] want = {1, 2, 7 + 14 - 9, 9, 1, 0, 1, 1};
+        for (int what = 0; what < 8; what++) {
+            Check.due("a refused join changes nothing: about " + what, s.about(0, what), want[what]);
+        }
+    }
+
     private static void joinAfterBreak() {
-        TileScreen s = new TileScreen();
+        Screen s = new Screen();
         s.join(0);
         s.credit(0, 1000);
         s.fill(3, 3, 2, 2, 1);
@@ -63,7 +85,7 @@ public final class LineTest {
     }
 
     private static void cut() {
-        TileScreen s = new TileScreen();
+        Screen s = new Screen();
         Check.no("cut of one never joined", s.cut(1));
         s.join(1);
         s.fill(0, 0, 8, 8, 5);
@@ -94,31 +116,66 @@ public final class LineTest {
         Check.due("shown", s.at(1, 7, 7), 5);
     }
 
+    private static void cutWithNothingOnTheWay() {
+        Screen s = new Screen();
+        s.join(0);
+        Check.yes("cut", s.cut(0));
+        Check.due("connected", s.about(0, 0), 0);
+        Check.due("epoch", s.about(0, 4), 1);
+        Check.no("cut again", s.cut(0));
+        Check.yes("join again", s.join(0));
+        Check.due("epoch", s.about(0, 4), 2);
+        Check.yes("cut of the one that joined again", s.cut(0));
+    }
+
     private static void credit() {
-        TileScreen s = new TileScreen();
-        Check.due("credit when not connected", Check.credit(s, 0, 1), -3);
-        Check.due("wrong n comes before not connected", Check.credit(s, 0, 0), -2);
+        Screen s = new Screen();
+        Check.due("credit when not connected", s.credit(0, 1), -3);
+        Check.due("wrong n comes before not connected", s.credit(0, 0), -2);
         s.join(0);
         for (int v : new int[] {-1, 3, MAX, MIN}) {
-            Check.due("credit of no viewer", Check.credit(s, v, 1), -2);
+            Check.due("credit of no viewer", s.credit(v, 1), -2);
         }
         for (int n : new int[] {0, -1, 1000001, MAX, MIN}) {
-            Check.due("credit of " + n, Check.credit(s, 0, n), -2);
+            Check.due("credit of " + n, s.credit(0, n), -2);
         }
-        Check.due("credit", Check.credit(s, 0, 1), 1);
-        Check.due("credit adds up", Check.credit(s, 0, 999998), 999999);
-        Check.due("too much", Check.credit(s, 0, 2), -3);
+        Check.due("credit", s.credit(0, 1), 1);
+        Check.due("credit adds up", s.credit(0, 999998), 999999);
+        Check.due("too much", s.credit(0, 2), -3);
         Check.due("refused credit changes nothing", s.about(0, 1), 999999);
-        Check.due("just as much as may be", Check.credit(s, 0, 1), 1000000);
-        Check.due("one too much", Check.credit(s, 0, 1), -3);
-        Check.due("far too much", Check.credit(s, 0, 1000000), -3);
+        Check.due("just as much as may be", s.credit(0, 1), 1000000);
+        Check.due("one too much", s.credit(0, 1), -3);
+        Check.due("far too much", s.credit(0, 1000000), -3);
         Check.due("refused credit changes nothing", s.about(0, 1), 1000000);
         s.join(1);
-        Check.due("the most at once", Check.credit(s, 1, 1000000), 1000000);
+        Check.due("the most at once", s.credit(1, 1000000), 1000000);
+    }
+
+    private static void creditThatWasUsed() {
+        Screen s = new Screen();
+        s.join(0);
+        s.credit(0, 1000000);
+        s.frame();
+        Check.due("pump", s.pump(0), 7);
+        Check.due("used", s.about(0, 1), 999993);
+        Check.due("one more than was used", s.credit(0, 8), -3);
+        Check.due("as much as was used", s.credit(0, 7), 1000000);
+    }
+
+    private static void creditAfterABreak() {
+        Screen s = new Screen();
+        s.join(0);
+        s.credit(0, 1000000);
+        s.cut(0);
+        Check.due("credit when cut", s.credit(0, 1), -3);
+        Check.due("no viewer or n comes first", s.credit(0, 1000001), -2);
+        s.join(0);
+        Check.due("it begins anew", s.credit(0, 1000000), 1000000);
+        Check.due("another one's is its own", s.credit(1, 1), -3);
     }
 
     private static void pump() {
-        TileScreen s = new TileScreen();
+        Screen s = new Screen();
         for (int v : new int[] {-1, 3, MAX, MIN}) {
             Check.due("pump of no viewer", s.pump(v), -1);
         }
@@ -137,8 +194,47 @@ public final class LineTest {
         Check.due("shown", s.shown(0), 2);
     }
 
+    private static void pumpWhenNotConnected() {
+        Screen s = new Screen();
+        s.fill(0, 0, 8, 8, 5);
+        s.frame();
+        Check.due("never joined", s.pump(0), 0);
+        Check.due("nothing was composed", s.about(0, 6), 0);
+        Check.due("nothing was composed", s.bytesBy(0, 0), 0);
+        s.join(0);
+        s.credit(0, 1000);
+        s.cut(0);
+        Check.due("cut", s.pump(0), 0);
+        Check.due("nothing was composed", s.about(0, 6), 0);
+        s.join(0);
+        Check.due("joined without credit", s.pump(0), 0);
+        Check.due("nothing was composed", s.about(0, 6), 0);
+        Check.due("nothing was composed", s.about(0, 2), 0);
+    }
+
+    private static void pumpByteByByte() {
+        Screen s = new Screen();
+        s.join(0);
+        s.fill(0, 0, 8, 8, 5);
+        s.frame();
+        for (int k = 1; k < 11; k++) {
+            s.credit(0, 1);
+            Check.due("one byte", s.pump(0), 1);
+            Check.due("no credit is left", s.pump(0), 0);
+            Check.due("bytes that came", s.about(0, 3), k);
+            Check.due("bytes on the line", s.about(0, 2), 11 - k);
+            Check.due("not shown yet", s.shown(0), 0);
+            Check.due("not shown yet", s.at(0, 0, 0), 0);
+        }
+        s.credit(0, 1);
+        Check.due("the last byte", s.pump(0), 1);
+        Check.due("bytes that came are gone", s.about(0, 3), 0);
+        Check.due("shown", s.shown(0), 1);
+        Check.due("shown", s.at(0, 0, 0), 5);
+    }
+
     private static void pumpComposesOnlyForCredit() {
-        TileScreen s = new TileScreen();
+        Screen s = new Screen();
         s.join(0);
         s.fill(0, 0, 8, 8, 5);
         s.frame();
@@ -166,7 +262,7 @@ public final class LineTest {
     }
 
     private static void pumpGoesOnToTheNextUpdate() {
-        TileScreen s = new TileScreen();
+        Screen s = new Screen();
         s.join(0);
         s.fill(0, 0, 8, 8, 5);
         s.frame();
@@ -183,7 +279,7 @@ public final class LineTest {
     }
 
     private static void viewersAreApart() {
-        TileScreen s = new TileScreen();
+        Screen s = new Screen();
         s.join(0);
         s.join(2);
         s.fill(0, 0, 8, 8, 5);
@@ -202,7 +298,7 @@ public final class LineTest {
     }
 
     private static void about() {
-        TileScreen s = new TileScreen();
+        Screen s = new Screen();
         s.join(1);
         s.fill(0, 0, 64, 8, 5);
         s.fill(1, 1, 1, 1, 6);
@@ -229,7 +325,7 @@ public final class LineTest {
     }
 
     private static void onLine() {
-        TileScreen s = new TileScreen();
+        Screen s = new Screen();
         s.join(0);
         s.fill(56, 40, 8, 8, 0x1234);
         s.frame();

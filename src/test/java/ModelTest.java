@@ -2,12 +2,13 @@ import java.util.Random;
 
 /** Long runs of calls, made up from fixed seeds: the class answers as the Model does. */
 public final class ModelTest {
-    private static final int RUNS = 1500;
-    private static final int CALLS = 512;
+    private static final int RUNS = 2500;
+    /** So many calls that change something leave room for looks within 512. */
+    private static final int CHANGES = 256;
     private static final int[] ODD = {-1, -2, 3, 8, 48, 64, Integer.MAX_VALUE, Integer.MIN_VALUE};
 
     private final Random random;
-    private final TileScreen screen = new TileScreen();
+    private final Screen screen = new Screen();
     private final Model model = new Model();
     private final String name;
     /** How lively colours are: few of them make copies and short records. */
@@ -40,12 +41,13 @@ public final class ModelTest {
     }
 
     private void run() {
-        int calls = 0;
-        while (calls < CALLS) {
-            calls += step();
+        while (screen.changes() < CHANGES) {
+            step();
         }
+        lookAtPicture(-1);
         for (int v = 0; v < 3; v++) {
-            lookAll(v);
+            look(v);
+            lookAtPicture(v);
             for (int kind = 0; kind < 7; kind++) {
                 seen[kind] += screen.bytesBy(v, kind);
             }
@@ -76,74 +78,76 @@ public final class ModelTest {
         Check.due(name + call + " of " + v, got, want);
     }
 
-    /** One call or a few that belong together: how many. */
-    private int step() {
-        int v = viewer();
-        switch (below(20)) {
-            case 0:
-            case 1:
-                return fill();
-            case 2:
-            case 3:
-                return blit();
-            case 4:
-            case 5:
-                return shade();
-            case 6:
-                return tileOfLetters();
-            case 7:
-            case 8:
-            case 9:
-                due("frame", v, screen.frame(), model.frame());
-                return 1;
-            case 10:
-            case 11:
-                due("join", v, screen.join(v) ? 1 : 0, model.join(v) ? 1 : 0);
-                return 1;
-            case 12:
-                if (below(4) == 0) {
-                    due("cut", v, screen.cut(v) ? 1 : 0, model.cut(v) ? 1 : 0);
-                }
-                return 1;
-            case 13:
-            case 14:
-                return credit(v, oddOr(1 + below(below(3) == 0 ? most : below(2) == 0 ? 20 : 1 + most / 300)));
-            case 15:
-                return poison(v);
-            case 16:
-                return spoilUpdate();
-            default:
-                return pump(v);
+    private void same(String call, int v, boolean got, boolean want) {
+        due(call, v, got ? 1 : 0, want ? 1 : 0);
+    }
+
+    /** One call or a few that belong together. */
+    private void step() {
+        int kind = below(20);
+        if (kind < 7) {
+            draw(kind);
+        } else if (kind < 10) {
+            due("frame", -1, screen.frame(), model.frame());
+        } else if (kind == 16) {
+            spoilUpdate();
+        } else {
+            callOf(viewer(), kind);
         }
     }
 
-    private int credit(int v, int n) {
-        due("credit " + n, v, Check.credit(screen, v, n), model.credit(v, n));
-        return 1;
+    private void draw(int kind) {
+        if (kind < 2) {
+            fill();
+        } else if (kind < 4) {
+            blit();
+        } else if (kind < 6) {
+            shade();
+        } else {
+            tileOfLetters();
+        }
     }
 
-    private int fill() {
+    private void callOf(int v, int kind) {
+        if (kind < 12) {
+            same("join", v, screen.join(v), model.join(v));
+        } else if (kind == 12) {
+            if (below(4) == 0) {
+                same("cut", v, screen.cut(v), model.cut(v));
+            }
+        } else if (kind < 15) {
+            credit(v, oddOr(1 + below(below(3) == 0 ? most : below(2) == 0 ? 20 : 1 + most / 300)));
+        } else if (kind == 15) {
+            poison(v);
+        } else {
+            pump(v);
+        }
+    }
+
+    private void credit(int v, int n) {
+        due("credit " + n, v, screen.credit(v, n), model.credit(v, n));
+    }
+
+    private void fill() {
         boolean whole = below(3) == 0;
         int x = oddOr(whole ? 8 * below(8) : below(64));
         int y = oddOr(whole ? 8 * below(6) : below(48));
         int w = oddOr(whole ? 8 * (1 + below(2)) : 1 + below(9));
         int h = oddOr(whole ? 8 : 1 + below(5));
         int c = colour();
-        due("fill", x, screen.fill(x, y, w, h, c) ? 1 : 0, model.fill(x, y, w, h, c) ? 1 : 0);
-        return 1;
+        same("fill", x, screen.fill(x, y, w, h, c), model.fill(x, y, w, h, c));
     }
 
-    private int blit() {
+    private void blit() {
         boolean whole = below(3) != 0;
         int place = oddOr(whole ? 512 * below(6) + 8 * below(8) : below(3072));
         int size = oddOr(whole ? 520 : 65 + below(1000));
         int x = oddOr(whole ? 8 * below(8) : below(64));
         int y = oddOr(whole ? 8 * below(6) : below(48));
-        due("blit", size, screen.blit(place, size, x, y) ? 1 : 0, model.blit(place, size, x, y) ? 1 : 0);
-        return 1;
+        same("blit", size, screen.blit(place, size, x, y), model.blit(place, size, x, y));
     }
 
-    private int shade() {
+    private void shade() {
         int tile = oddOr(below(48));
         int row = oddOr(below(8));
         int c = colour();
@@ -151,13 +155,12 @@ public final class ModelTest {
         int times = below(3) == 0 ? 8 : 1;
         for (int k = 0; k < times; k++) {
             int r = times == 8 ? k : row;
-            due("shade", tile, screen.shade(tile, r, c, step) ? 1 : 0, model.shade(tile, r, c, step) ? 1 : 0);
+            same("shade", tile, screen.shade(tile, r, c, step), model.shade(tile, r, c, step));
         }
-        return times;
     }
 
     /** A tile of some pixels on one ground, for MASK, PALETTE and RUNS. */
-    private int tileOfLetters() {
+    private void tileOfLetters() {
         int x = 8 * below(8);
         int y = 8 * below(6);
         int many = 1 + below(6);
@@ -171,20 +174,18 @@ public final class ModelTest {
             screen.fill(px, py, 1, 1, c);
             model.fill(px, py, 1, 1, c);
         }
-        return 1 + many;
     }
 
-    private int poison(int v) {
+    private void poison(int v) {
         if (below(3) != 0) {
-            return 1;
+            return;
         }
         int n = oddOr(1 + below(below(2) == 0 ? 40 : 10000));
         int mask = below(3) == 0 ? random.nextInt() : 1 << below(8);
-        due("poison " + n, v, screen.poison(v, n, mask) ? 1 : 0, model.poison(v, n, mask) ? 1 : 0);
-        return 1;
+        same("poison " + n, v, screen.poison(v, n, mask), model.poison(v, n, mask));
     }
 
-    private int pump(int v) {
+    private void pump(int v) {
         int before = screen.shown(v);
         int connected = screen.about(v, 0);
         due("pump", v, screen.pump(v), model.pump(v));
@@ -195,29 +196,33 @@ public final class ModelTest {
             breaks++;
         }
         look(v);
-        return 1;
     }
 
     /** Spoils bytes of records that are on a line and makes the sum right, so that they are read. */
-    private int spoilUpdate() {
+    private void spoilUpdate() {
         int v = 0;
-        int size = screen.about(v, 2);
         if (model.views[v].came.size() > 2 || !model.views[v].poisons.isEmpty()) {
-            return 1;
+            return;
         }
-        if (size == 0) {
-            return screen.about(v, 1) == 0 ? credit(v, 1) + pump(v) + spoilNow(v) : 1;
+        if (screen.about(v, 2) == 0) {
+            if (screen.about(v, 1) != 0) {
+                return;
+            }
+            credit(v, 1);
+            pump(v);
         }
-        return spoilNow(v);
+        if (screen.about(v, 2) >= 6) {
+            spoilNow(v);
+        }
     }
 
-    private int spoilNow(int v) {
+    private void spoilNow(int v) {
         int size = screen.about(v, 2);
-        if (size < 6) {
-            return 0;
-        }
         int header = 3 - model.views[v].came.size();
-        int[] bytes = Check.line(screen, v);
+        int[] bytes = new int[size];
+        for (int k = 0; k < size; k++) {
+            bytes[k] = model.onLine(v, k);
+        }
         int changes = 1 + below(6);
         for (int k = 0; k < changes; k++) {
             int place = header + (below(8) == 0 ? below(2) : 2 + below(Math.min(size - header - 4, 30) + 1));
@@ -239,13 +244,11 @@ public final class ModelTest {
         pump(v);
         if (screen.shown(v) != before) {
             spoilt++;
-            lookAll(v);
         }
-        return changes + 4;
     }
 
     private void spoil(int v, int place, int mask) {
-        due("poison", v, screen.poison(v, 1 + place, mask) ? 1 : 0, model.poison(v, 1 + place, mask) ? 1 : 0);
+        same("poison", v, screen.poison(v, 1 + place, mask), model.poison(v, 1 + place, mask));
     }
 
     private void look(int v) {
@@ -261,17 +264,27 @@ public final class ModelTest {
             int y = oddOr(below(48));
             due("at", v, screen.at(v, x, y), model.at(v, x, y));
         }
-        for (int k = -1; k <= Math.max(0, screen.about(v, 2)); k++) {
+        lookAtLine(v, Math.max(0, screen.about(v, 2)));
+    }
+
+    /** The first bytes, some of the others, and beyond both ends. */
+    private void lookAtLine(int v, int size) {
+        for (int k = -1; k < Math.min(size, 30); k++) {
+            due("onLine " + k, v, screen.onLine(v, k), model.onLine(v, k));
+        }
+        for (int k = size; k > Math.max(30, size - 5); k--) {
+            due("onLine " + k, v, screen.onLine(v, k), model.onLine(v, k));
+        }
+        for (int n = 0; n < 30 && size > 30; n++) {
+            int k = below(size);
             due("onLine " + k, v, screen.onLine(v, k), model.onLine(v, k));
         }
     }
 
-    private void lookAll(int v) {
-        look(v);
+    private void lookAtPicture(int v) {
         for (int y = 0; y < 48; y++) {
             for (int x = 0; x < 64; x++) {
                 due("at", v, screen.at(v, x, y), model.at(v, x, y));
-                due("at", -1, screen.at(-1, x, y), model.at(-1, x, y));
             }
         }
     }

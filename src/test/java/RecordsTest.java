@@ -1,12 +1,17 @@
+import java.util.Arrays;
+
 /** Updates, their records of all seven kinds, and promise 14. */
 public final class RecordsTest {
     public static void main(String[] args) {
+        noRecords();
         solid();
         copy();
         copyIsOfWhatWasSentBefore();
         copyBeforeCached();
         cached();
         cachedInOneUpdate();
+        cacheHasOnlyWhatWasPutIn();
+        cacheThatChangesInOneUpdate();
         mask();
         maskAgainstRuns();
         palette();
@@ -23,14 +28,14 @@ public final class RecordsTest {
     }
 
     /** One viewer, with a closed first frame. */
-    private static TileScreen start() {
-        TileScreen s = new TileScreen();
+    private static Screen start() {
+        Screen s = new Screen();
         s.join(0);
         return s;
     }
 
     /** Closes a frame, composes its update, looks at it, and lets the rest come. */
-    private static int[] update(TileScreen s) {
+    private static int[] update(Screen s) {
         s.frame();
         s.credit(0, 1);
         Check.due("first byte", s.pump(0), 1);
@@ -43,13 +48,13 @@ public final class RecordsTest {
     }
 
     /** Closes a frame; looks at the records of its update alone. */
-    private static void records(String what, TileScreen s, int... want) {
+    private static void records(String what, Screen s, int... want) {
         int[] rest = update(s);
         int told = want.length + 4;
         Check.due(what + ": length, middle byte", rest[0], told >> 8);
         Check.due(what + ": length, last byte", rest[1], told & 255);
         Check.due(what + ": number", rest[2] << 8 | rest[3], s.shown(0));
-        Check.bytes(what, java.util.Arrays.copyOfRange(rest, 4, rest.length - 2), want);
+        Check.bytes(what, Arrays.copyOfRange(rest, 4, rest.length - 2), want);
         int sum = rest[2] + rest[3];
         for (int b : want) {
             sum += b;
@@ -58,7 +63,7 @@ public final class RecordsTest {
     }
 
     /** Paints pixels of tile 0 along its rows from a text of letters, a: colour 1. */
-    private static void paint(TileScreen s, int tile, String pixels) {
+    private static void paint(Screen s, int tile, String pixels) {
         for (int k = 0; k < 64; k++) {
             int x = tile % 8 * 8 + k % 8;
             int y = tile / 8 * 8 + k / 8;
@@ -66,14 +71,26 @@ public final class RecordsTest {
         }
     }
 
-    private static void due(TileScreen s, int... want) {
+    private static void due(Screen s, int... want) {
         for (int kind = 0; kind < 7; kind++) {
             Check.due("bytesBy " + kind, s.bytesBy(0, kind), want[kind]);
         }
     }
 
+    private static void noRecords() {
+        Screen s = start();
+        records("nothing was drawn", s);
+        s.fill(0, 0, 8, 8, 5);
+        s.fill(0, 0, 8, 8, 0);
+        records("drawn and drawn back", s);
+        s.fill(0, 0, 64, 48, 5);
+        s.frame();
+        s.fill(0, 0, 64, 48, 0);
+        records("a frame between was not sent", s);
+    }
+
     private static void solid() {
-        TileScreen s = start();
+        Screen s = start();
         s.fill(8, 0, 8, 8, 0xABCD);
         s.fill(56, 40, 8, 8, 255);
         records("SOLID", s, 0, 1, 0xAB, 0xCD, 0, 47, 0, 255);
@@ -82,7 +99,7 @@ public final class RecordsTest {
     }
 
     private static void copy() {
-        TileScreen s = start();
+        Screen s = start();
         s.fill(16, 0, 16, 8, 7);
         records("two of them", s, 0, 2, 0, 7, 0, 3, 0, 7);
         s.fill(0, 8, 8, 8, 7);
@@ -93,7 +110,7 @@ public final class RecordsTest {
     }
 
     private static void copyIsOfWhatWasSentBefore() {
-        TileScreen s = start();
+        Screen s = start();
         paint(s, 0, "aabb");
         update(s);
         s.blit(0, 520, 8, 0);
@@ -105,7 +122,7 @@ public final class RecordsTest {
     }
 
     private static void copyBeforeCached() {
-        TileScreen s = start();
+        Screen s = start();
         paint(s, 0, "aabb");
         update(s);
         s.blit(0, 520, 8, 0);
@@ -113,7 +130,7 @@ public final class RecordsTest {
     }
 
     private static void cached() {
-        TileScreen s = start();
+        Screen s = start();
         paint(s, 5, "aabb");
         update(s);
         paint(s, 5, "aacc");
@@ -129,15 +146,83 @@ public final class RecordsTest {
     }
 
     private static void cachedInOneUpdate() {
-        TileScreen s = start();
+        Screen s = start();
         paint(s, 0, "aabb");
         paint(s, 3, "aabb");
         records("CACHED of what this update put in", s,
             3, 0, 0, 1, 0, 2, 51, 51, 51, 51, 51, 51, 51, 51, 2, 3, 0);
     }
 
+    /** The places of a cache that are empty hold no tile, not even one of colour 0. */
+    private static void cacheHasOnlyWhatWasPutIn() {
+        Screen s = start();
+        s.fill(0, 0, 64, 48, 5);
+        update(s);
+        s.fill(16, 0, 8, 8, 0);
+        records("nothing was put in", s, 0, 2, 0, 0);
+        s.fill(16, 0, 8, 8, 5);
+        dots(s, 1, 100);
+        update(s);
+        Check.due("place", s.about(0, 7), 1);
+        s.fill(32, 0, 8, 8, 0);
+        records("one was put in", s, 0, 4, 0, 0);
+    }
+
+    /** Two pixels on a ground of 5: MASK. */
+    private static void dots(Screen s, int tile, int colour) {
+        int x = tile % 8 * 8;
+        int y = tile / 8 * 8;
+        s.fill(x, y, 8, 8, 5);
+        s.fill(x, y, 1, 1, colour);
+        s.fill(x + 4, y + 4, 1, 1, colour);
+    }
+
+    private static int[] dotsRecord(int tile, int colour) {
+        return new int[] {3, tile, 0, colour, 0, 5, 127, 255, 255, 255, 247, 255, 255, 255};
+    }
+
+    /** Entries 0 .. 15 have dots of colours 100 .. 115, and no tile of SENT has such. */
+    private static Screen startWithFullCache() {
+        Screen s = start();
+        for (int k = 0; k < 16; k++) {
+            dots(s, k, 100 + k);
+        }
+        update(s);
+        Check.due("from 15 to 0", s.about(0, 7), 0);
+        s.fill(0, 0, 64, 48, 5);
+        update(s);
+        return s;
+    }
+
+    private static void cacheThatChangesInOneUpdate() {
+        Screen s = startWithFullCache();
+        dots(s, 0, 99);
+        dots(s, 1, 100);
+        dots(s, 2, 102);
+        int[] want = Arrays.copyOf(dotsRecord(0, 99), 31);
+        System.arraycopy(dotsRecord(1, 100), 0, want, 14, 14);
+        want[28] = 2;
+        want[29] = 2;
+        want[30] = 2;
+        records("an entry that was replaced before it was wanted", s, want);
+        s = startWithFullCache();
+        dots(s, 0, 100);
+        dots(s, 1, 99);
+        dots(s, 2, 99);
+        int[] other = new int[20];
+        other[0] = 2;
+        System.arraycopy(dotsRecord(1, 99), 0, other, 3, 14);
+        other[17] = 2;
+        other[18] = 2;
+        records("an entry that is wanted before it is replaced", s, other);
+        Check.due("one was put in", s.about(0, 7), 1);
+        s = startWithFullCache();
+        dots(s, 47, 115);
+        records("the last entry", s, 2, 47, 15);
+    }
+
     private static void mask() {
-        TileScreen s = start();
+        Screen s = start();
         paint(s, 9, "zaaazaaazaaaaaaaz");
         int[] want = new int[14];
         want[0] = 3;
@@ -154,7 +239,7 @@ public final class RecordsTest {
     }
 
     private static void maskAgainstRuns() {
-        TileScreen s = start();
+        Screen s = start();
         s.fill(0, 0, 8, 8, 1);
         s.fill(3, 3, 2, 1, 2);
         records("three runs are shorter than MASK", s, 5, 0, 3, 27, 0, 1, 2, 0, 2, 35, 0, 1);
@@ -165,7 +250,7 @@ public final class RecordsTest {
     }
 
     private static void palette() {
-        TileScreen s = start();
+        Screen s = start();
         paint(s, 0, "cab");
         int[] want = new int[25];
         want[0] = 4;
@@ -186,14 +271,14 @@ public final class RecordsTest {
         four[6] = 3;
         four[8] = 1;
         four[10] = 2;
-        java.util.Arrays.fill(four, 11, 27, 27);
+        Arrays.fill(four, 11, 27, 27);
         records("PALETTE of four", s, four);
         Check.due("PALETTE is cached", s.about(0, 7), 2);
         due(s, 0, 0, 0, 0, 52, 0, 0);
     }
 
     private static void paletteAgainstRuns() {
-        TileScreen s = start();
+        Screen s = start();
         paint(s, 0, "aaaaaaaabbbbbbbbccccccccddddddddaaaaaaaabbbbbbbbccccccccdddddddd");
         update(s);
         due(s, 0, 0, 0, 0, 27, 0, 0);
@@ -209,7 +294,7 @@ public final class RecordsTest {
     }
 
     private static void runs() {
-        TileScreen s = start();
+        Screen s = start();
         paint(s, 0, "aaaaaaaaaaaaaaaabbbbbbbbbbbbbbbbccccccccccccccccddddddddddddddde");
         records("RUNS of five colours", s,
             5, 0, 5, 16, 0, 1, 16, 0, 2, 16, 0, 3, 15, 0, 4, 1, 0, 5);
@@ -219,7 +304,7 @@ public final class RecordsTest {
     }
 
     private static void runsAgainstRaw() {
-        TileScreen s = start();
+        Screen s = start();
         StringBuilder pixels = new StringBuilder();
         for (int k = 0; k < 64; k++) {
             pixels.append((char) ('a' + Math.min(k, 41) % 5));
@@ -235,7 +320,7 @@ public final class RecordsTest {
     }
 
     private static void raw() {
-        TileScreen s = start();
+        Screen s = start();
         int[] want = new int[130];
         want[0] = 6;
         want[1] = 20;
@@ -251,7 +336,7 @@ public final class RecordsTest {
         Check.due("RAW is cached", s.about(0, 7), 1);
     }
 
-    private static void shadeAll(TileScreen s, int start) {
+    private static void shadeAll(Screen s, int start) {
         for (int tile = 0; tile < 48; tile++) {
             for (int row = 0; row < 8; row++) {
                 s.shade(tile, row, start + 64 * tile + 8 * row, 1);
@@ -260,7 +345,7 @@ public final class RecordsTest {
     }
 
     private static void largestUpdate() {
-        TileScreen s = start();
+        Screen s = start();
         shadeAll(s, 60000);
         int[] rest = update(s);
         Check.due("all tiles RAW", rest.length, 6246);
@@ -276,7 +361,7 @@ public final class RecordsTest {
     }
 
     private static void placeGoesRound() {
-        TileScreen s = start();
+        Screen s = start();
         for (int k = 0; k < 17; k++) {
             s.fill(0, 0, 8, 8, 0);
             s.fill(0, 0, 1, 1, 100 + k);
@@ -298,7 +383,7 @@ public final class RecordsTest {
     }
 
     private static void manyDigitsOfTheLength() {
-        TileScreen s = start();
+        Screen s = start();
         for (int k = 1; k < 300; k++) {
             s.frame();
         }
@@ -307,14 +392,14 @@ public final class RecordsTest {
         s.frame();
         s.pump(0);
         int[] rest = Check.line(s, 0);
-        Check.bytes("length 196 and number 300", java.util.Arrays.copyOf(rest, 4), 0, 196, 1, 44);
+        Check.bytes("length 196 and number 300", Arrays.copyOf(rest, 4), 0, 196, 1, 44);
         s.credit(0, 1000);
         Check.due("pump", s.pump(0), 198);
         Check.due("shown", s.shown(0), 300);
     }
 
     private static void bytesByIsKept() {
-        TileScreen s = start();
+        Screen s = start();
         s.fill(0, 0, 8, 8, 5);
         s.frame();
         s.credit(0, 1);
@@ -330,7 +415,7 @@ public final class RecordsTest {
     }
 
     private static void bytesByRefused() {
-        TileScreen s = start();
+        Screen s = start();
         for (int v : new int[] {-1, 3, Integer.MAX_VALUE, Integer.MIN_VALUE}) {
             Check.due("bytesBy of no viewer", s.bytesBy(v, 0), -1);
         }
