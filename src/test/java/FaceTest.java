@@ -120,12 +120,13 @@ public final class FaceTest {
         Check.yes("512 calls made " + made + " bytes", made < 100000);
     }
 
+    /** 510 calls. */
     private static void dearCalls(TileScreen s) {
         for (int v = 0; v < 3; v++) {
             s.join(v);
             s.credit(v, 1000000);
         }
-        for (int k = 0; k < 60; k++) {
+        for (int k = 0; k < 56; k++) {
             s.shade(k % 48, k % 8, 100 * k, 7);
             s.blit(0, 64 * 40 + 56, 8, 8);
             s.frame();
